@@ -554,6 +554,17 @@ public final class PromisesTest {
         due("EGt holds", 0b111, () -> holds(y, "EGt"));
         due("EG!b: likewise", 1, () -> rounds(y, "EG!b"));
         due("EF&tb: no live goal", 0, () -> rounds(y, "EF&tb"));
+        FutureWishes chain = worlds("01 12 23 34 45 56 67 78 89", 1, 1, 1, 1, 1, 1, 1, 1, 1, 3);
+        due("EGa: the last one falls ten times", 10, () -> rounds(chain, "EGa"));
+        due("AF!a: likewise", 10, () -> rounds(chain, "AF!a"));
+        chain.step(9, 9);
+        due("EFb: nine are added one by one", 9, () -> rounds(chain, "EFb"));
+        due("EFb holds", 1023, () -> holds(chain, "EFb"));
+        due("AU!bb: 0, and nine fall", 9, () -> rounds(chain, "AU!bb"));
+        due("AUab: nine steps back from none, and nine fall", 9, () -> rounds(chain, "AUab"));
+        due("AUcb: the neighbours are there at once, and nine fall", 9, () -> rounds(chain, "AUcb"));
+        chain.flip(4, 0);
+        due("AUab: from 4 four are added, and nine fall", 13, () -> rounds(chain, "AUab"));
     }
 
     private static void signs() {
@@ -638,6 +649,13 @@ public final class PromisesTest {
         FutureWishes two = worlds("01 12 23 31 13", 0, 0, 1, 1);
         two.fair(0);
         due("to 2, to 3, and by 1 to 2 again", "012312", () -> rows(two, "EGt", 0));
+        FutureWishes ten = worlds("", 1, 0, 0, 0, 0, 0, 0, 0, 0, 2);
+        ten.ring();
+        due("ten goals, and the first one again", "012345678901", () -> rows(ten, "EGt", 0));
+        due("nine steps", "0123456789", () -> rows(ten, "EFb", 0));
+        ten.fair(0);
+        due("twice around to the only goal", "012345678901234567890", () -> rows(ten, "EGt", 0));
+        due("once around, and once more", "12345678901234567890", () -> rows(ten, "AFc", 1));
         FutureWishes lead = worlds("01 10 12 22", 1, 1, 3);
         lead.fair(1);
         due("into the fair one and around it", "0122", () -> rows(lead, "EGa", 0));
