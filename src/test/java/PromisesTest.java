@@ -1,6 +1,8 @@
 /**
- * For each promise of the document: ordinary inputs, the edges that it names,
- * and wrong inputs. The answers that are due were worked out by hand.
+ * For each promise of the document but the last one: ordinary inputs, some
+ * edges, and wrong inputs. The answers that are due were worked out by hand.
+ * The tests by the document's sentences, digest's among them, stand in
+ * TermsSentencesTest, ChangeSentencesTest and LookSentencesTest.
  */
 public final class PromisesTest {
     private static final int NONE = FutureWishes.NONE;
@@ -72,11 +74,10 @@ public final class PromisesTest {
     /** A whole witness as its digits. */
     private static String row(FutureWishes x, int wish, int world) {
         StringBuilder row = new StringBuilder();
-        for (int place = 0; place < 200; place++) {
-            int next = x.witness(wish, world, place);
-            if (next != NONE) {
-                row.append(next);
-            }
+        int next = x.witness(wish, world, 0);
+        while (next != NONE && row.length() < 112) {
+            row.append(next);
+            next = x.witness(wish, world, row.length());
         }
         return row.toString();
     }
@@ -152,8 +153,6 @@ public final class PromisesTest {
         ifFair();
         promise = 23;
         fulfilled();
-        promise = 24;
-        digest();
         promise = 0;
         nothingIsChanged();
         System.out.println("PromisesTest: " + checked + " answers, " + wrong + " wrong");
@@ -788,120 +787,49 @@ public final class PromisesTest {
         due("3 of 3", 1.0, () -> y.fulfilled());
     }
 
-    /** The digest by the document's list, out of the other calls. */
-    private static long listed(FutureWishes x, String buffer) {
-        long hash = 2621;
-        for (int k = 0; k <= 8; k++) {
-            hash = 31 * hash + x.count(k);
-        }
-        int size = x.count(0);
-        for (int k = 0; k < 5 * size; k++) {
-            hash = 31 * hash + x.world(k / 5, k % 5);
-        }
-        for (int w = 0; w < 4; w++) {
-            int signs = Math.max(0, x.wish(w, 0));
-            for (int k = 0; k <= 3; k++) {
-                hash = 31 * hash + x.wish(w, k);
-            }
-            for (int k = 0; k < 4 * signs; k++) {
-                hash = 31 * hash + x.sign(w, k / 4, k % 4);
-            }
-            for (int k = 0; k < 4 * size; k++) {
-                hash = 31 * hash + x.witness(w, k / 4, k % 4);
-            }
-            hash = 31 * hash + x.compare(w, 0);
-            hash = 31 * hash + x.ifFair(w, NONE);
-            hash = 31 * hash + x.ifFair(w, 0);
-            for (int k = 0; size > 0 && k < 4; k++) {
-                hash = 31 * hash + x.fixes(w, 0, k);
-            }
-        }
-        hash = 31 * hash + Double.doubleToLongBits(x.fulfilled());
-        hash = 31 * hash + buffer.length();
-        for (int k = 0; k < buffer.length(); k++) {
-            hash = 31 * hash + buffer.charAt(k);
-        }
-        return hash;
-    }
-
-    private static void digest() {
-        FutureWishes x = new FutureWishes();
-        due("of a new object", listed(x, ""), () -> x.digest());
-        type(x, "E~");
-        due("with a buffer", listed(x, "E~"), () -> x.digest());
-        x.clearBuffer();
-        wish(x, 1, "EFa");
-        due("with a wish", listed(x, ""), () -> x.digest());
-        for (int k = 0; k < 10; k++) {
-            x.addWorld(k);
-        }
-        x.ring();
-        x.step(3, 7);
-        wish(x, 0, "AUaEGb");
-        wish(x, 3, "EU!ab");
-        x.fair(2);
-        type(x, "!");
-        due("of much", listed(x, "!"), () -> x.digest());
-        due("once more", listed(x, "!"), () -> x.digest());
-        // every share that a wish or four can have, for its bits
-        for (int of = 1; of <= 10; of++) {
-            FutureWishes y = new FutureWishes();
-            wish(y, 0, "a");
-            wish(y, 1, "b");
-            wish(y, 2, "a");
-            for (int k = 0; k < of; k++) {
-                y.addWorld(0);
-            }
-            for (int k = 0; k < of; k++) {
-                due("of a share", listed(y, ""), () -> y.digest());
-                y.flip(k, 0);
-                due("of a share", listed(y, ""), () -> y.digest());
-                y.flip(k, 1);
-            }
-            due("of a share", listed(y, ""), () -> y.digest());
-        }
-    }
-
-    /** Looks and calls that throw change nothing: the digest tells. */
-    private static void nothingIsChanged() {
+    private static FutureWishes someState() {
         FutureWishes x = worlds("01 12 20 22", 1, 2, 7);
         wish(x, 0, "EGa");
         wish(x, 1, "AUab");
         type(x, "E");
-        long before = x.digest();
+        return x;
+    }
+
+    /** Looks and calls that throw change nothing: the digest tells. */
+    private static void nothingIsChanged() {
         int[] odd = {MIN, -2, -1, 0, 1, 2, 3, 4, 5, 9, 10, 11, 40, 41, 127, MAX};
-        Call[] looks = new Call[odd.length * odd.length];
-        for (int i = 0; i < odd.length; i++) {
-            for (int j = 0; j < odd.length; j++) {
-                int a = odd[i];
-                int b = odd[j];
-                looks[i * odd.length + j] = () -> {
-                    got(() -> x.world(a, b));
-                    got(() -> x.wish(a, b));
-                    got(() -> x.sign(a, b, 1));
-                    got(() -> x.sign(0, a, b));
-                    got(() -> x.witness(a, b, 1));
-                    got(() -> x.witness(0, a, b));
-                    got(() -> x.compare(a, b));
-                    got(() -> x.count(a));
-                    got(() -> x.fixes(0, a, b));
-                    got(() -> x.fixes(a, b, 0));
-                    got(() -> x.ifFair(a, b));
-                    got(() -> x.read(a));
-                    got(() -> a < 0 || a > 3 ? x.negate(a) : 0);
-                    got(() -> a < 0 || a > 3 ? x.giveUp(a) : 0);
-                    got(() -> a < 0 || a > 15 ? x.addWorld(a) : 0);
-                    got(() -> a < 0 || a > 2 ? x.step(a, b) + x.flip(a, b) + x.removeWorld(a) : 0);
-                    got(() -> a < -1 || a > 3 ? x.fair(a) : 0);
-                    got(() -> a < 33 || a > 126 ? x.append(a) : 0);
-                    return x.firstError();
-                };
+        for (int a : odd) {
+            for (int b : odd) {
+                FutureWishes x = someState();
+                long before = x.digest();
+                lookOrThrow(x, a, b);
+                due("digest() behind calls with " + a + " and " + b, before, () -> x.digest());
             }
         }
-        for (Call look : looks) {
-            due("a look", 1, look);
-        }
-        due("digest()", before, () -> x.digest());
-        due("fulfilled()", x.fulfilled(), () -> x.fulfilled());
+    }
+
+    private static void lookOrThrow(FutureWishes x, int a, int b) {
+        got(() -> x.world(a, b));
+        got(() -> x.wish(a, b));
+        got(() -> x.sign(a, b, 1));
+        got(() -> x.sign(0, a, b));
+        got(() -> x.witness(a, b, 1));
+        got(() -> x.witness(0, a, b));
+        got(() -> x.compare(a, b));
+        got(() -> x.count(a));
+        got(() -> x.fixes(0, a, b));
+        got(() -> x.fixes(a, b, 0));
+        got(() -> x.ifFair(a, b));
+        got(() -> x.fulfilled());
+        got(() -> x.firstError());
+        got(() -> x.read(a));
+        got(() -> a < 0 || a > 3 ? x.negate(a) : 0);
+        got(() -> a < 0 || a > 3 ? x.giveUp(a) : 0);
+        got(() -> a < 0 || a > 15 ? x.addWorld(a) : 0);
+        got(() -> a < 0 || a > 2 ? x.step(a, b) : 0);
+        got(() -> a < 0 || a > 2 ? x.flip(a, b) : 0);
+        got(() -> a < 0 || a > 2 ? x.removeWorld(a) : 0);
+        got(() -> a < -1 || a > 3 ? x.fair(a) : 0);
+        got(() -> a < 33 || a > 126 ? x.append(a) : 0);
     }
 }
