@@ -21,13 +21,17 @@ import java.lang.reflect.Constructor;
 import java.lang.reflect.Field;
 import java.lang.reflect.Method;
 import java.lang.reflect.Modifier;
+import java.nio.charset.StandardCharsets;
+import java.nio.file.Files;
+import java.nio.file.Path;
 import java.util.ArrayList;
-import java.util.Arrays;
 import java.util.HashMap;
 import java.util.List;
 import java.util.Map;
 import java.util.Set;
 import java.util.TreeSet;
+import java.util.regex.Matcher;
+import java.util.regex.Pattern;
 import javax.lang.model.element.Element;
 import javax.lang.model.element.ElementKind;
 import javax.lang.model.element.ExecutableElement;
@@ -55,32 +59,15 @@ public final class RulesTest {
         "java.lang.IllegalArgumentException", "java.lang.IndexOutOfBoundsException");
     private static final Set<String> CONSTANTS = Set.of("int", "long", "boolean", "char", "java.lang.String");
 
-    /** The face as the document has it: result, name, parameters, exceptions in their order. */
-    private static final String[] FACE = {
-        "int addWorld(int) IllegalArgumentException IllegalStateException",
-        "int removeWorld(int) IndexOutOfBoundsException",
-        "int step(int,int) IndexOutOfBoundsException",
-        "int flip(int,int) IndexOutOfBoundsException IllegalArgumentException",
-        "int fair(int) IllegalArgumentException",
-        "int ring()",
-        "int append(int) IllegalArgumentException IllegalStateException",
-        "int clearBuffer()",
-        "int firstError()",
-        "int read(int) IndexOutOfBoundsException IllegalArgumentException",
-        "int negate(int) IndexOutOfBoundsException IllegalStateException",
-        "int giveUp(int) IndexOutOfBoundsException",
-        "int undo() IllegalStateException",
-        "int world(int,int) IndexOutOfBoundsException IllegalArgumentException",
-        "int wish(int,int) IndexOutOfBoundsException IllegalArgumentException",
-        "int sign(int,int,int) IndexOutOfBoundsException IllegalArgumentException",
-        "int witness(int,int,int) IndexOutOfBoundsException IllegalArgumentException",
-        "int compare(int,int) IndexOutOfBoundsException",
-        "int count(int) IllegalArgumentException",
-        "int fixes(int,int,int) IndexOutOfBoundsException IllegalArgumentException",
-        "int ifFair(int,int) IndexOutOfBoundsException IllegalArgumentException",
-        "double fulfilled()",
-        "long digest()",
-    };
+    private static final Path DOCUMENT = Path.of("..", "shared", "DOC.md");
+    private static final int METHODS = 23;
+    private static final Pattern METHOD = Pattern.compile("public (\\w+) (\\w+)\\((.*)\\)(?: throws (.*))?");
+
+    /** The rows of the document's face, each without its ";", as "public int ring()". */
+    private static final List<String> FACE = new ArrayList<>();
+
+    /** Its methods by their names, each as "int flip(int,int) FirstException SecondException". */
+    private static final Map<String, String> PROMISED = new HashMap<>();
 
     private static int wrong = 0;
 
@@ -90,6 +77,8 @@ public final class RulesTest {
     }
 
     public static void main(String[] args) throws Exception {
+        readFace();
+        checkRows();
         checkFace();
         checkSource();
         System.out.println("RulesTest: " + wrong + " faults");
@@ -98,8 +87,38 @@ public final class RulesTest {
         }
     }
 
+    private static void readFace() throws Exception {
+        boolean within = false;
+        for (String line : Files.readAllLines(DOCUMENT, StandardCharsets.UTF_8)) {
+            within = !line.startsWith("```") && (within || line.startsWith("public final class "));
+            String row = line.strip().replace(";", "");
+            Matcher method = METHOD.matcher(row);
+            if (within && line.endsWith(";")) {
+                FACE.add(row);
+            }
+            if (within && method.matches()) {
+                String types = method.group(3).replaceAll(" \\w+(?=,|$)", "").replace(" ", "");
+                String thrown = method.group(4) == null ? "" : " " + method.group(4).replace(",", "");
+                PROMISED.put(method.group(2), method.group(1) + " " + method.group(2) + "(" + types + ")" + thrown);
+            }
+        }
+        if (PROMISED.size() != METHODS || FACE.size() != METHODS + 2) {
+            fault("the document's face was read as " + FACE);
+        }
+    }
+
+    /** Names of parameters are in the source alone, so the rows have to stand there word by word. */
+    private static void checkRows() throws Exception {
+        String source = Files.readString(Path.of(SOURCE), StandardCharsets.UTF_8);
+        for (String row : FACE) {
+            if (!source.contains("\n    " + row + (row.contains("(") ? " {\n" : ";\n"))) {
+                fault("rule 1: the source has no row " + row);
+            }
+        }
+    }
+
     private static void checkFace() throws Exception {
-        Set<String> want = new TreeSet<>(Arrays.asList(FACE));
+        Set<String> want = new TreeSet<>(PROMISED.values());
         Set<String> got = new TreeSet<>();
         for (Method method : FutureWishes.class.getDeclaredMethods()) {
             if (Modifier.isPublic(method.getModifiers())) {
@@ -198,10 +217,8 @@ public final class RulesTest {
                 faultAt(tree, "rule 11: " + tree.getName() + " has too many parameters");
             }
             boolean inFace = inside.getModifiers().contains(javax.lang.model.element.Modifier.PUBLIC);
-            for (String row : FACE) {
-                if (!inFace && row.contains(" " + tree.getName() + "(")) {
-                    faultAt(tree, "rule 1: " + tree.getName() + " bears the name of a public method");
-                }
+            if (!inFace && PROMISED.containsKey(tree.getName().toString())) {
+                faultAt(tree, "rule 1: " + tree.getName() + " bears the name of a public method");
             }
             super.visitMethod(tree, none);
             inside = null;
